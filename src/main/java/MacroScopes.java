@@ -505,11 +505,12 @@ public final class MacroScopes {
             }
         }
 
+        /** A symbol means the same number with the kind MEANS_SYMBOL, if nothing binds or defines it. */
         int meaning(int ofName, int inEnvironment) {
             int environment = inEnvironment;
             for (int at = ofName; names.has(at); at = names.original[at]) {
                 int found = names.binding[at];
-                while (found >= environment && found < MOST) {
+                while (found >= 0 && found >= environment && found < MOST) {
                     found = outer[found];
                 }
                 if (found >= 0 && found < MOST) {
@@ -561,12 +562,11 @@ public final class MacroScopes {
         int addForms(char[] text, int length) {
             opened = 0;
             int fault = 0;
-            int to = 0;
-            int from = tokenFrom(text, 0, length);
-            while (from < length && fault == 0) {
-                to = tokenEnd(text, from, length);
+            int next = 0;
+            for (int from = tokenFrom(text, 0, length); from < length && fault == 0; from = Math.max(from + 1, next)) {
+                int to = tokenEnd(text, from, length);
                 fault = addToken(text, from, to);
-                from = tokenFrom(text, to, length);
+                next = tokenFrom(text, to, length);
             }
             return fault == 0 && opened > 0 ? FAULT_BRACKETS : fault;
         }
@@ -972,7 +972,7 @@ public final class MacroScopes {
             this.matches = matches;
         }
 
-        /** Puts it behind all forms; answers the fault. */
+        /** Puts what is made behind all forms; answers the fault. */
         int make(int template, int environment) {
             if (!isEven(template)) {
                 return FAULT_UNEVEN;
@@ -1161,7 +1161,7 @@ public final class MacroScopes {
             this.maker = new Maker(forms, names, matches);
         }
 
-        /** Answers the fault. */
+        /** Tells the forms of a text that has been read; answers the fault. */
         int tellText() {
             startText();
             int end = forms.top;
@@ -1553,7 +1553,7 @@ public final class MacroScopes {
             return k >= 0 && k < takenLength && k < taken.length ? taken[k] : NONE;
         }
 
-        /** Whether its brackets are such as a typed text may have. */
+        /** Whether the brackets of what was told are such as a typed text may have: nothing else is looked at. */
         boolean canBeRead() {
             int opened = 0;
             for (int i = 0; i < takenLength && i < taken.length; i++) {
