@@ -292,11 +292,11 @@ final class ModelTest {
     private static int compare(Session session, PlainModel model, String text) {
         int fault = model.read(text);
         Session.due("read " + text, session.read(text), fault);
-        Session.due("place after " + text, session.object().place(), model.place);
+        Session.due("place after " + text, session.place(), model.place);
         Session.due("told after " + text, session.told(), model.told);
         session.counts(model.told.length(), model.uses, model.variables, model.topForms, model.macroCount(),
             model.rulesSize(), -1);
-        Session.due("check after " + text, session.object().check(), model.check());
+        Session.due("check after " + text, session.check(), model.check());
         String name = oneIn(4) ? data(1) : name();
         Session.due("means " + name, session.means(name), model.means(name));
         return fault;

@@ -25,18 +25,18 @@ final class RoomTest {
 
     /** Each use makes as many forms and aliases as it may, 100 of them one within the other, again and again. */
     private static void dearest() {
-        Session s = new Session();
+        MacroScopes x = new MacroScopes();
         StringBuilder names = new StringBuilder();
         for (char a = 'a'; a <= 'z'; a++) {
             for (char b = 'a'; b <= 'v'; b++) {
                 names.append(a).append(b).append(' ');
             }
         }
-        Session.due("rules", s.read("(define-syntax r (syntax-rules () ((_ a ...) (r " + names + "))))"), 0);
+        Session.due("rules", Session.read(x, "(define-syntax r (syntax-rules () ((_ a ...) (r " + names + "))))"), 0);
         int calls = names.length() / 8 + 8;
-        for (; calls < 512; calls += 2) {
-            s.object().type(0x28722029L, 4);
-            int fault = s.object().read();
+        for (; calls < Session.CALLS; calls += 2) {
+            x.type(0x28722029L, 4);
+            int fault = x.read();
             if (fault != 2) {
                 Session.due("read (r )", fault, 2);
             }
@@ -69,22 +69,23 @@ final class RoomTest {
 
     /** More calls than an object is used for: answers are free, but there are some. */
     private static void manyTexts() {
-        Session s = new Session();
+        MacroScopes x = new MacroScopes();
         for (int i = 0; i < 3000; i++) {
-            s.read("(define-syntax m" + i + " (syntax-rules () ((_ a" + i + ") (m" + i / 2 + " b" + i + "))))");
-            s.read("(m" + i + " 1) " + i);
-            s.means("m" + i);
+            Session.read(x, "(define-syntax m" + i + " (syntax-rules () ((_ a" + i + ") (m" + i / 2 + " b" + i + "))))");
+            Session.read(x, "(m" + i + " 1) " + i);
+            x.type('m', 1);
+            x.means();
         }
-        Session.due("rules kept", s.object().count(5) <= 4000, true);
-        s = new Session();
+        Session.due("rules kept", x.count(5) <= 4000, true);
+        x = new MacroScopes();
         for (int i = 0; i < 5000; i++) {
-            s.read("(define-syntax m (syntax-rules () ((_) x" + i + ")))");
+            Session.read(x, "(define-syntax m (syntax-rules () ((_) x" + i + ")))");
         }
-        s = new Session();
+        x = new MacroScopes();
         for (int i = 0; i < 600; i++) {
-            s.read("(define-syntax m (syntax-rules () ((_) 1)))" + (" y" + i + "z").repeat(20) + " u" + i + " v" + i
+            Session.read(x, "(define-syntax m (syntax-rules () ((_) 1)))" + (" y" + i + "z").repeat(20) + " u" + i + " v" + i
                 + " w" + i + " a" + i + " b" + i + " c" + i + " d" + i + " e" + i + " f" + i + " g" + i);
         }
-        Session.due("rules kept", s.object().count(5) <= 4000, true);
+        Session.due("rules kept", x.count(5) <= 4000, true);
     }
 }
