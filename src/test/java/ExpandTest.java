@@ -44,7 +44,12 @@ final class ExpandTest {
         s.tells("(define-syntax m (syntax-rules () ((_ a) (f a))))", "").counts(0, 0, 0, 1, 1, 10);
         s.tells("1 (define-syntax n (syntax-rules () ((_) 1))) 2", "1 2").counts(3, 0, 0, 3, 2, 17);
         s.tells("(define m (m m2)) (m 1)", "(define m (f m2)) (m 1)").counts(23, 1, 0, 2, 1, 17);
-        s.tells("(define-syntax n (syntax-rules () ((_) 2))) (n)", "2").counts(1, 1, 0, 2, 1, 24);
+        s.tells("(define-syntax m (syntax-rules () ((_) 1))) (define m (f (g) (m) ((m) (m)))) (m)", "(define m (f (g) 1 (1 1))) (m)");
+        s.tells("(define m 1) (define-syntax m (syntax-rules () ((_) 1))) (f) (m)", "(define m 1) (f) 1");
+        s.tells("(define m 1)", "(define m 1)").counts(12, 0, 0, 1, 1, 31);
+        s = new Session();
+        s.tells("(define-syntax n (syntax-rules () ((_) 1)))", "").counts(0, 0, 0, 1, 1, 7);
+        s.tells("(define-syntax n (syntax-rules () ((_) 2))) (n)", "2").counts(1, 1, 0, 2, 1, 14);
         s.tells("(n) (define n 1) (n) (define-syntax n (syntax-rules () ((_) 3))) (n)", "2 (define n 1) (n) 3");
         for (String name : new String[] {"if", "lambda", "quote", "let-syntax", "syntax-rules", "define",
             "define-syntax", "...", "_", "1", "()", "(f)"}) {
@@ -96,6 +101,7 @@ final class ExpandTest {
         s.tells("(q x) (q (q y))", "(quote (x b (c _))) (quote ((q y) b (c _)))");
         s.tells("(define-syntax u (syntax-rules () ((_) (f _))))", "").tells("(u)", "(f _)");
         s.tells("(define-syntax l (syntax-rules () ((_) (lambda (_) 1))))", "").faults("(l)", 3);
+        s.tells("(define-syntax w (syntax-rules () ((_) (lambda (lambda) (lambda 1)))))", "").tells("(w)", "(lambda (%0) (%0 1))");
         s.tells("(define-syntax nest (syntax-rules () ((_ 0 e ...) (e ...)) "
             + "((_ 1 e ...) (lambda (x) (nest 0 x e ...))) ((_ 2 e ...) (lambda (x) (nest 1 x e ...)))))", "");
         s.tells("(nest 2 x)", "(lambda (%0) (lambda (%1) (%1 %0 x)))").counts(37, 3, 2);

@@ -53,7 +53,7 @@ final class OrderTest {
         Session.sentence("the lambda or let-syntax that would be more than the 250th");
         s = new Session();
         s.tells("(define-syntax l (syntax-rules () ((_) (" + "(lambda () 1)".repeat(125) + "))))", "");
-        s.faults("(l)(l)(lambda 1)", 2, 2).faults("(l)(l)(let-syntax)", 2, 2).faults("(l)(l)(if)", 3, 2);
+        s.faults("(l)(l)(lambda 1)", 2, 2).faults("(l)(l)(let-syntax)", 2, 2).faults("(l)(l)(let-syntax () 1)", 2, 2).faults("(l)(l)(if)", 3, 2);
         s.faults("(l)(l)(lambda () if)", 2, 2).faults("(l)(l)if", 4, 2);
     }
 

@@ -182,6 +182,8 @@ final class ShapesTest {
         Session.sentence("a VARIABLE, which comes once");
         fits(rule("(_ a b (c (d)))", "1"));
         fails(rule("(_ a a)", "1"));
+        fails(rule("(_ lambda lambda)", "1"));
+        fits(rule("(_ lambda if)", "(lambda if)"));
         fails(rule("(_ a (a))", "1"));
         fails(rule("(_ (a) (b (a)))", "1"));
         fails(rule("(_ a a ...)", "1"));
