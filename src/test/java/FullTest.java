@@ -3,7 +3,9 @@ final class FullTest {
     public static void main(String[] args) {
         usesThatMakeMuch();
         usesThatMakeManyAliases();
+        rulesOfLateAliases();
         aliasesBoundAllTheWay();
+        listWithinHundred();
         sixHundredBindings();
         manyRulesThatFail();
         manyPlacesForRepeated();
@@ -47,6 +49,14 @@ final class FullTest {
         s.faults("(d 0" + " 1".repeat(99) + ")", 2);
     }
 
+    private static void rulesOfLateAliases() {
+        Session.sentence("for the same name the same one");
+        Session s = new Session();
+        s.tells("(define-syntax d(syntax-rules()((_ (a b c z ...)) (let-syntax ((k (syntax-rules (c) ((_ c a) (lambda (b)"
+            + " (quote (a b c))))))) (k c 5))) ((_ z x y ...) (d (" + names(490) + ") y ...))))", "");
+        s.tells("(d 0" + " 1".repeat(96) + ")", "(lambda (%0) (quote (5 aB aC)))").counts(31, 98, 1);
+    }
+
     private static void aliasesBoundAllTheWay() {
         Session.sentence("what the innermost that binds it binds it to");
         Session s = new Session();
@@ -75,26 +85,36 @@ final class FullTest {
             + ")".repeat(lambdas) + ")))", "");
     }
 
-    private static void sixHundredBindings() {
-        Session.sentence("lambdas of 6 names, one within the other, and at last a list within 100 others");
+    /** So many lambdas, one within the other, up to the innermost's form. */
+    private static StringBuilder toldLambdas(int lambdas) {
         StringBuilder told = new StringBuilder();
-        int variables = 0;
-        for (int i = 0; i < 99; i++) {
-            told.append("(lambda (");
-            for (int k = 0; k < 6; k++) {
-                told.append(k == 0 ? "%" : " %").append(variables);
-                variables++;
-            }
-            told.append(") ");
+        for (int variable = 0; variable < 6 * lambdas; variable++) {
+            told.append(variable % 6 == 0 ? "(lambda (%" : " %").append(variable).append(variable % 6 == 5 ? ") " : "");
         }
+        return told;
+    }
+
+    private static void listWithinHundred() {
+        Session.sentence("lambdas of 6 names, one within the other, and at last a list within 100 others");
         // The names that are given stand for the variables of the innermost lambda around the use.
-        told.append("(%353 %348 %588 %593)").append(")".repeat(99));
+        String told = toldLambdas(99) + "(%353 %348 %588 %593)" + ")".repeat(99);
         String before = LAMBDA.repeat(59) + "(m f ";
         String behind = ")".repeat(60);
-        aroundList(40).tells(before + "a" + behind, told.toString()).counts(told.length(), 1, 594, 1);
+        aroundList(40).tells(before + "a" + behind, told).counts(told.length(), 1, 594, 1);
         aroundList(40).faults(before + "()" + behind, 2).faults(before + "if" + behind, 4);
         aroundList(39).faults(before + "()" + behind, 3);
         aroundList(41).faults(before + "a" + behind, 2);
+    }
+
+    private static void sixHundredBindings() {
+        Session.sentence("lambdas of 6 names, one within the other, the last within 100 lists");
+        String told = toldLambdas(100) + "%599" + ")".repeat(100);
+        Session s = new Session();
+        s.tells("(define-syntax m(syntax-rules()((_)" + LAMBDA.repeat(40) + "f" + ")".repeat(40) + ")))", "");
+        s.tells(LAMBDA.repeat(60) + "(m)" + ")".repeat(60), told).counts(told.length(), 1, 600, 1);
+        s = new Session();
+        s.tells("(define-syntax m(syntax-rules()((_)" + LAMBDA.repeat(41) + "f" + ")".repeat(41) + ")))", "");
+        s.faults(LAMBDA.repeat(60) + "(m)" + ")".repeat(60), 2);
     }
 
     private static void manyRulesThatFail() {

@@ -5,6 +5,7 @@ final class RulesTest {
         asManyOrMore();
         firstRule();
         literals();
+        wordsAsVariables();
         repeats();
         Session.end();
     }
@@ -106,6 +107,15 @@ final class RulesTest {
         s.tells("(c z) (c y) (lambda (z) (c z))", "(1 1) (1 2) (lambda (%0) (1 2))");
     }
 
+    private static void wordsAsVariables() {
+        Session.sentence("In a pattern a name is a literal, if it is one of these, or _, or a VARIABLE");
+        Session s = new Session();
+        s.tells("(define-syntax m (syntax-rules () ((_ syntax-rules if) (quote (if syntax-rules quote)))))", "");
+        s.tells("(m 1 2) (m if x)", "(quote (2 1 quote)) (quote (x if quote))");
+        s.tells("(define-syntax n (syntax-rules (lambda) ((_ lambda) 1) ((_ m) (quote m)) ((_ quote define) (f quote define))))", "");
+        s.tells("(n lambda) (n m) (n 1) (n 2 3)", "1 (quote m) (quote 1) (f 2 3)");
+    }
+
     private static void repeats() {
         Session.sentence("a form with ... behind told as often as its repeated variables matched");
         Session s = new Session();
@@ -118,6 +128,9 @@ final class RulesTest {
         s.tells("(y (1) (2 3) 4)", "(quote ((1 4) (4 2 (2)) (4 3 (3))))");
         s.tells("(define-syntax w (syntax-rules () ((_ (a (b c)) ...) (quote ((c b a) ...)))))", "");
         s.tells("(w (1 (2 3)) (4 (5 6)))", "(quote ((3 2 1) (6 5 4)))");
+        s.tells("(define-syntax p (syntax-rules () ((_ (a b c) ...) (quote (a ... b ... c ...)))))", "");
+        s.tells("(define-syntax q (syntax-rules () ((_ a b c d ...) (quote ((a b c d) ...)))))", "");
+        s.tells("(p (1 2 3) (4 5 6)) (q 1 2 3 4 5 6)", "(quote (1 4 2 5 3 6)) (quote ((1 2 3 4) (1 2 3 5) (1 2 3 6)))");
         s.tells("(define-syntax let (syntax-rules () ((_ ((n v) ...) e) ((lambda (n ...) e) v ...))))", "");
         s.tells("(let ((x 1) (y 2)) (x y))", "((lambda (%0 %1) (%0 %1)) 1 2)").faults("(let ((x 1) (x 2)) 3)", 3);
         s.tells("(define-syntax g (syntax-rules () ((_ d) (let-syntax ((k (syntax-rules () ((_ a d) (quote (a d)))))) (k 1 2)))))", "");
