@@ -289,7 +289,7 @@ final class ModelTest {
         Session.end();
     }
 
-    private static int compare(Session session, PlainModel model, String text) {
+    static int compare(Session session, PlainModel model, String text) {
         int fault = model.read(text);
         Session.due("read " + text, session.read(text), fault);
         Session.due("place after " + text, session.place(), model.place);
