@@ -404,7 +404,7 @@ public final class MacroScopes {
 
         int root(int name) {
             int root = name;
-            for (int older = originalOf(root); older != NONE; older = originalOf(root)) {
+            for (int older = originalOf(root); older >= 0 && older < root; older = originalOf(root)) {
                 root = older;
             }
             return root;
@@ -508,10 +508,11 @@ public final class MacroScopes {
         /** A symbol means the same number with the kind MEANS_SYMBOL, if nothing binds or defines it. */
         int meaning(int ofName, int inEnvironment) {
             int environment = inEnvironment;
-            for (int at = ofName; names.has(at); at = names.original[at]) {
+            // The name behind an alias and the binding behind another one are always older: so both loops go down.
+            for (int at = ofName; names.has(at); at = Math.min(at - 1, names.original[at])) {
                 int found = names.binding[at];
                 while (found >= 0 && found >= environment && found < MOST) {
-                    found = outer[found];
+                    found = Math.min(found - 1, outer[found]);
                 }
                 if (found >= 0 && found < MOST) {
                     return home[found] == NONE ? 4 * value[found] + MEANS_VARIABLE : 4 * found + MEANS_BOUND_MACRO;

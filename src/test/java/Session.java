@@ -13,6 +13,7 @@ final class Session {
 
     private record Change(Kind kind, long characters, int n) { }
 
+    private static int compared = 0;
     private static int wrong = 0;
     private static String sentence = "";
 
@@ -26,7 +27,13 @@ final class Session {
         sentence = words;
     }
 
+    /** How many answers were compared with those that are due. */
+    static int compared() {
+        return compared;
+    }
+
     static void due(String what, Object got, Object want) {
+        compared++;
         if (!got.equals(want)) {
             wrong++;
             System.out.println(what + " answered " + got + ", due is " + want
