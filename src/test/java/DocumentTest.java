@@ -299,7 +299,9 @@ final class DocumentTest {
         s.tells("(lambda (x) (let-syntax ((a " + rule("(_ y)", "(f y)") + ")) (a x)))", "(lambda (%0) (f %0))")
             .tells("(a x)", "(a x)");
         says("whose environment is that new one;");
-        s.tells("(let-syntax ((a " + rule("(_)", "(b)") + ") (b " + ONE + ")) (a))", "1");
+        String both = "(let-syntax ((a " + rule("(_)", "(b)") + ") (b " + ONE + ")) ";
+        s.tells(both + "(a))", "1").tells(both + "(lambda (b) (b (a))))", "(lambda (%0) (%0 1))");
+        s.tells(both + "(let-syntax ((b " + rule("(_)", "2") + ")) ((a) (b))))", "(1 2)");
         s.tells("(lambda (a b) (let-syntax ((a " + rule("(_)", "(f b)") + ")) (lambda (b) (a))))",
             "(lambda (%0 %1) (lambda (%2) (f %1)))");
         s.tells("(let-syntax ((r (syntax-rules () ((_) 0) ((_ x y ...) (f (r y ...)))))) (r 1 2))", "(f (f 0))");
